@@ -569,7 +569,7 @@ public final class ChalkRoom {
         if (trouble != FINE) {
             return refuse(trouble);
         }
-        envoys.play(floor, rounds);
+        envoys.play(floor);
         return answer(envoys.outcome);
     }
 
@@ -578,7 +578,7 @@ public final class ChalkRoom {
         if (trouble != FINE) {
             return refuse(trouble);
         }
-        envoys.play(floor, rounds);
+        envoys.play(floor);
         return answer(envoys.firstRow);
     }
 
@@ -785,8 +785,9 @@ public final class ChalkRoom {
         void lay(int tray, int sort, int many) {
             sorts[tray] = sort;
             sizes[tray] = many;
-            int start = tray * MOST_IN_TRAY;
-            Arrays.fill(numbers, start, start + MOST_IN_TRAY, 0L);
+            for (int place = 0; place < MOST_IN_TRAY; place++) {
+                numbers[tray * MOST_IN_TRAY + place] = 0;
+            }
         }
 
         long at(int tray, int place) {
@@ -838,7 +839,7 @@ public final class ChalkRoom {
         private int place = 0;
 
         Tokens() {
-            for (int i = 0; i < KEYWORD_COUNT * KEYWORD_PLACES; i++) {
+            for (int i = 0; i < KEYWORDS.length() && i < KEYWORD_COUNT * KEYWORD_PLACES; i++) {
                 char letter = KEYWORDS.charAt(i);
                 if (letter != ' ') {
                     int which = i / KEYWORD_PLACES;
@@ -2127,42 +2128,35 @@ public final class ChalkRoom {
         }
     }
 
-    /** GAMES: best play of two envoys, by looking at all that can still change the end. */
+    /**
+     * GAMES. More rounds end as one does: LAND 1 can make its best answer to the first move and from then on take
+     * back whatever LAND 0 does, and LAND 0 can take back all but LAND 1's last move. So it is enough to look at
+     * LAND 0's first move and at the best answer to it; behind a move, or a pass, LAND 1 always has one.
+     */
     private static final class Envoys {
-        private static final int FAR = 1000000;
-
-        /** What the lead of LAND 0 grows by when it gets a board. */
+        /** What the lead of LAND 0 grows by when it gets a board; a LEG keeps its board whatever the LINE does. */
         private final int[] gain = new int[MOST_BOARDS];
-        private final int[] cut = new int[MOST_DEEP];
-        private int wide = 0;
-        private int deep = 0;
-        /** VALUE of LAND 0 less that of LAND 1. */
-        private int lead = 0;
+        /** LAND 0's VALUE less that of LAND 1. */
         int outcome = 0;
         int firstRow = 0;
 
-        void play(Floor floor, int rounds) {
-            begin(floor);
-            int moves = rounds * 2;
-            int best = -FAR;
-            firstRow = deep;
-            for (int row = 0; row < deep; row++) {
-                if (cut[row] < wide) {
-                    int end = pushRight(row, moves, best, FAR);
-                    if (end > best) {
-                        best = end;
+        void play(Floor floor) {
+            weigh(floor);
+            int lead = floor.valueOf(0) - floor.valueOf(1);
+            firstRow = floor.deep;
+            outcome = lead - bestAnswer(floor, NONE);
+            for (int row = 0; row < floor.deep; row++) {
+                if (floor.cut[row] < floor.wide) {
+                    int end = lead + gain[boardNumber(floor.cut[row], row)] - bestAnswer(floor, row);
+                    if (firstRow == floor.deep || end > outcome) {
+                        outcome = end;
                         firstRow = row;
                     }
                 }
             }
-            outcome = firstRow < deep ? best : turnOfOne(moves - 1, -FAR, FAR);
         }
 
-        private void begin(Floor floor) {
-            wide = floor.wide;
-            deep = floor.deep;
-            lead = floor.valueOf(0) - floor.valueOf(1);
-            System.arraycopy(floor.cut, 0, cut, 0, MOST_DEEP);
+        private void weigh(Floor floor) {
             Arrays.fill(gain, 0);
             for (int i = 0; i < floor.count; i++) {
                 if (floor.legLand[i] < 0) {
@@ -2171,84 +2165,16 @@ public final class ChalkRoom {
             }
         }
 
-        /**
-         * What comes when LAND 0 moves; below low and above high nobody needs to know it nearer.
-         * The dearest boards come first, for then the others are soon seen not to matter.
-         */
-        private int turnOfZero(int moves, int low, int high) {
-            if (moves <= 0) {
-                return lead;
-            }
-            int row = dearest(0, 0);
-            if (row < 0) {
-                return turnOfOne(moves - 1, low, high);
-            }
-            int best = low;
-            int tried = 0;
-            for (int turn = 0; turn < MOST_DEEP && row >= 0 && best < high; turn++) {
-                best = Math.max(best, pushRight(row, moves, best, high));
-                tried |= 1 << row;
-                row = dearest(0, tried);
-            }
-            return best;
-        }
-
-        private int turnOfOne(int moves, int low, int high) {
-            if (moves <= 0) {
-                return lead;
-            }
-            int row = dearest(1, 0);
-            if (row < 0) {
-                return turnOfZero(moves - 1, low, high);
-            }
-            if (moves == 1) {
-                return lead - gain[boardNumber(cut[row] - 1, row)];
-            }
-            int best = high;
-            int tried = 0;
-            for (int turn = 0; turn < MOST_DEEP && row >= 0 && best > low; turn++) {
-                best = Math.min(best, pushLeft(row, moves, low, best));
-                tried |= 1 << row;
-                row = dearest(1, tried);
-            }
-            return best;
-        }
-
-        /** Of the rows not tried yet where a LAND can move that which changes the lead most, or NONE. */
-        private int dearest(int land, int tried) {
-            int best = NONE;
-            int most = NONE;
-            for (int row = 0; row < deep; row++) {
-                boolean canMove = land == 0 ? cut[row] < wide : cut[row] > 0;
-                if (canMove && (tried >> row & 1) == 0) {
-                    int worth = gain[boardNumber(cut[row] - land, row)];
-                    if (worth > most) {
-                        most = worth;
-                        best = row;
-                    }
+        /** The most that LAND 1 can win when LAND 0 has moved in a row (NONE: it passed). */
+        private int bestAnswer(Floor floor, int moved) {
+            int most = 0;
+            for (int row = 0; row < floor.deep; row++) {
+                int cut = row == moved ? floor.cut[row] + 1 : floor.cut[row];
+                if (cut > 0) {
+                    most = Math.max(most, gain[boardNumber(cut - 1, row)]);
                 }
             }
-            return best;
-        }
-
-        private int pushRight(int row, int moves, int low, int high) {
-            int won = gain[boardNumber(cut[row], row)];
-            cut[row]++;
-            lead += won;
-            int end = turnOfOne(moves - 1, low, high);
-            lead -= won;
-            cut[row]--;
-            return end;
-        }
-
-        private int pushLeft(int row, int moves, int low, int high) {
-            cut[row]--;
-            int lost = gain[boardNumber(cut[row], row)];
-            lead -= lost;
-            int end = turnOfZero(moves - 1, low, high);
-            lead += lost;
-            cut[row]++;
-            return end;
+            return most;
         }
     }
 

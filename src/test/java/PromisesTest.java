@@ -938,6 +938,12 @@ public final class PromisesTest {
         due(59, z, "live without rows", z.live(0), 3, 0);
         due(60, z, "missed", z.lived(0), 2, 0);
         due(60, z, "nights", z.lived(3), 1, 0);
+        ChalkRoom w = laid("room 9 by 2;line 4 5;");
+        w.room(0);
+        Texts.talks(w, "any 0;any 1;");
+        due(59, w, "live where rows were once", w.live(0), 2, 0);
+        due(60, w, "missed", w.lived(0), 2, 0);
+        due(60, w, "nothing yielded", w.told(4) + w.told(5), 0, 0);
     }
 
     private static void life(String talks, int done, int left) {
