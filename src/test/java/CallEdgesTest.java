@@ -44,6 +44,8 @@ public final class CallEdgesTest {
         reachEdges();
         straitEdges();
         bridgeEdges();
+        islandsAskedFirst();
+        islandsOfTheRoomAsItIs();
         DUES.end();
     }
 
@@ -400,6 +402,12 @@ public final class CallEdgesTest {
         ChalkRoom z = laid("room 1 by 1;line 0;");
         DUES.due(26, z, "one board", z.border(1), 0, 0);
         DUES.due(26, z, "no board", z.border(0), 0, 0);
+        ChalkRoom v = laid("room 3 by 3;line 1 0 0;");
+        DUES.due(26, v, "the first board alone", v.border(0), 1, 0);
+        DUES.due(26, v, "those beside and behind it", v.border(1), 2, 0);
+        ChalkRoom u = laid("room 3 by 3;line 3 3 2;");
+        DUES.due(26, u, "the last board alone", u.border(1), 1, 0);
+        DUES.due(26, u, "those beside and ahead of it", u.border(0), 2, 0);
         ChalkRoom w = laid("room 3 by 3;line 0 0 0;thing a at 1 1 worth 0 0 leg 0;");
         DUES.due(26, w, "one island", w.border(0), 1, 0);
         DUES.due(26, w, "corners do not touch it", w.border(1), 4, 0);
@@ -585,6 +593,15 @@ public final class CallEdgesTest {
             y.write(0, 0, v);
             DUES.due(36, y, "draw of " + v, y.draw(0), false, 5);
         }
+        ChalkRoom w = laid("room 9 by 7;");
+        for (int many : new int[] {7, 60}) {
+            w.tray(2, 0, many);
+            for (int row = 0; row < 7; row++) {
+                w.write(2, row, 9 - row);
+            }
+            DUES.due(36, w, "seven rows of a TRAY of " + many, w.draw(2), true, 0);
+            DUES.due(36, "the LINE", lineOf(w), 9876543);
+        }
         ChalkRoom z = laid("room 5 by 2;bends 0;");
         z.tray(0, 0, 2);
         z.write(0, 1, 5);
@@ -687,6 +704,8 @@ public final class CallEdgesTest {
         DUES.due(43, y, "to the BIG one", y.steps(0, 0, 2), 1, 0);
         DUES.due(43, y, "from the BIG one", y.steps(0, 2, 1), 1, 0);
         DUES.due(44, y, "BIG ones not minded", y.reach(0), 7, 0);
+        ChalkRoom w = laid("room 3 by 1;line 3;thing c at 1 0 worth 0 0 big;thing a at 0 0 worth 0 0;thing b at 2 0 worth 0 0;");
+        DUES.due(42, w, "the first THING is the BIG one between", w.passes(0, 1, 2), NONE, 6);
         ChalkRoom z = laid("room 3 by 2;line 3 0;thing a at 0 0 worth 0 0;thing b at 2 0 worth 0 0;thing c at 1 0 worth 0 0 big;");
         DUES.due(42, z, "around it through the other LAND", z.passes(0, 0, 1), 3, 0);
         DUES.due(43, z, "around it", z.steps(0, 0, 1), 4, 0);
@@ -750,5 +769,52 @@ public final class CallEdgesTest {
         ChalkRoom w = laid("room 5 by 1;line 0;thing a at 4 0 worth 0 0 leg 0;");
         DUES.due(46, w, "beside it", w.bridge(0), 3, 0);
         DUES.due(47, w, "one", w.bridged(0), 1, 0);
+    }
+
+    /** Each of these calls looks at the ROOM itself, whichever is asked first, and behind whatever was done. */
+    private static void islandsAskedFirst() {
+        String room = "room 3 by 2;line 1 1;thing a at 2 0 worth 0 0 leg 0;thing b at 0 0 worth 0 0;";
+        DUES.due(26, "border(0)", laid(room).border(0), 3);
+        DUES.due(38, "islands(0)", laid(room).islands(0), 2);
+        DUES.due(39, "island(1, 1)", laid(room).island(1, 1), 3);
+        DUES.due(40, "mainland(1)", laid(room).mainland(1), 3);
+        DUES.due(41, "joined(1, 0, 2, 1)", laid(room).joined(1, 0, 2, 1), 1);
+        DUES.due(42, "passes(0, 0, 1)", laid(room).passes(0, 0, 1), 1);
+        DUES.due(43, "steps(0, 0, 1)", laid(room).steps(0, 0, 1), 2);
+        DUES.due(44, "reach(0)", laid(room).reach(0), 1);
+        DUES.due(45, "strait(0)", laid(room).strait(0), 1);
+        DUES.due(46, "bridge(0)", laid(room).bridge(0), 1);
+        DUES.due(47, "bridged(0)", laid(room).bridged(0), 1);
+    }
+
+    private static void islandsOfTheRoomAsItIs() {
+        String many = "room 9 by 7;line 9 0 9 0 9 0 9;thing a at 0 0 worth 0 0;thing b at 0 2 worth 0 0;";
+        String few = "room 3 by 2;line 1 1;thing a at 2 0 worth 0 0 leg 0;thing b at 0 0 worth 0 0;";
+        for (int call = 0; call < 11; call++) {
+            ChalkRoom x = laid(many);
+            x.islands(0);
+            x.strait(0);
+            x.bridge(0);
+            x.passes(0, 0, 1);
+            DUES.due(10, x, "another ROOM", Texts.room(x, few), 2, 0);
+            switch (call) {
+                case 0: DUES.due(26, x, "border(0)", x.border(0), 3, 0); break;
+                case 1: DUES.due(38, x, "islands(0)", x.islands(0), 2, 0); break;
+                case 2: DUES.due(39, x, "island(1, 1)", x.island(1, 1), 3, 0); break;
+                case 3: DUES.due(40, x, "mainland(1)", x.mainland(1), 3, 0); break;
+                case 4: DUES.due(41, x, "joined(1, 0, 2, 1)", x.joined(1, 0, 2, 1), 1, 0); break;
+                case 5: DUES.due(42, x, "passes(0, 0, 1)", x.passes(0, 0, 1), 1, 0); break;
+                case 6: DUES.due(43, x, "steps(0, 0, 1)", x.steps(0, 0, 1), 2, 0); break;
+                case 7: DUES.due(44, x, "reach(0)", x.reach(0), 1, 0); break;
+                case 8: DUES.due(45, x, "strait(0)", x.strait(0), 1, 0); break;
+                case 9: DUES.due(46, x, "bridge(0)", x.bridge(0), 1, 0); break;
+                default: DUES.due(47, x, "bridged(0)", x.bridged(0), 1, 0); break;
+            }
+            DUES.due(38, x, "islands(1)", x.islands(1), 1, 0);
+            DUES.due(40, x, "mainland(0)", x.mainland(0), 2, 0);
+            x.room(0);
+            DUES.due(38, x, "islands(1) of no boards", x.islands(1), 0, 0);
+            DUES.due(40, x, "mainland(0) of no boards", x.mainland(0), 0, 0);
+        }
     }
 }

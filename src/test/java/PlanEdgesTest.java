@@ -27,6 +27,7 @@ public final class PlanEdgesTest {
         linesByBends();
         gameRounds();
         gamePasses();
+        gameWithLegs();
         firstOfSeveral();
         seeds();
         threeHundredSteps();
@@ -36,6 +37,7 @@ public final class PlanEdgesTest {
         stops();
         drawsWrapAround();
         livedOfLatest();
+        livedAnew();
         meanEdges();
         meanFractions();
         threeMarks();
@@ -221,6 +223,12 @@ public final class PlanEdgesTest {
         DUES.due(52, y, "price(1, 9)", y.price(1, 9), 1, 0);
         DUES.due(52, y, "price(1, 14): just all", y.price(1, 14), 1, 0);
         DUES.due(52, y, "price(1, 15)", y.price(1, 15), NONE, 6);
+        ChalkRoom z = laid("room 9 by 1;line 9;thing a at 0 0 worth 0 5;");
+        DUES.due(52, z, "price(1, 5): all nine", z.price(1, 5), 9, 0);
+        DUES.due(52, z, "price(1, 6)", z.price(1, 6), NONE, 6);
+        DUES.due(52, z, "price(0, 1): there is none to give", z.price(0, 1), NONE, 6);
+        z.cede(0, 0, 9);
+        DUES.due(52, z, "price(1, 5): what it has", z.price(1, 5), 0, 0);
     }
 
     // ---- PEACE, LINES, SURE
@@ -312,7 +320,9 @@ public final class PlanEdgesTest {
         ChalkRoom z = laid("room 9 by 1;bends 0;");
         for (int b = 0; b <= 9; b++) {
             DUES.due(55, z, "lines(" + b + ") of one row", z.lines(b), 1, 0);
+            DUES.due(56, z, "sure(" + b + ") of one row", z.sure(b), b, 0);
         }
+        DUES.due(56, z, "sure(10) of one row", z.sure(10), NONE, 6);
         DUES.due(55, z, "lines(10) of one row", z.lines(10), 0, 0);
     }
 
@@ -354,6 +364,14 @@ public final class PlanEdgesTest {
             // With the sum 8 they differ by 8, 6, 4 or 2, each twice, or not at all.
             DUES.due(55, x, "lines(8) by BENDS " + bends, x.lines(8), 1 + bends / 2 * 2, 0);
         }
+        // More BENDS than there are columns: each NUMBER may follow on each.
+        for (int bends = 2; bends <= 9; bends++) {
+            ChalkRoom y = laid("room 2 by 3;bends " + bends + ";");
+            int[] due = {1, 3, 6, 7, 6, 3, 1, 0};
+            for (int b = 0; b < due.length; b++) {
+                DUES.due(55, y, "lines(" + b + ") by BENDS " + bends, y.lines(b), due[b], 0);
+            }
+        }
     }
 
     // ---- GAMES
@@ -388,6 +406,25 @@ public final class PlanEdgesTest {
         }
         ChalkRoom z = laid("room 3 by 2;line 3 2;");
         DUES.due(58, z, "first: where LAND 1 has a board", z.first(1), 1, 0);
+    }
+
+    /** A board that a LEG holds is won by nobody, on either side, though the LINE moves over it. */
+    private static void gameWithLegs() {
+        for (int land = 0; land < 2; land++) {
+            ChalkRoom x = laid("room 2 by 2;line 1 1;thing a at 1 0 worth 9 9 leg " + land + ";thing b at 0 1 worth 1 1;");
+            DUES.due(58, x, "b is shielded, a can't be won", x.first(1), 1, 0);
+            DUES.due(57, x, "game(1)", x.game(1), land == 0 ? 10 : -8, 0);
+            x.leg(0, NONE);
+            DUES.due(58, x, "without the LEG a is taken", x.first(1), 0, 0);
+            DUES.due(57, x, "and taken back: b stays", x.game(1), 1 - 9, 0);
+            x.leg(0, land);
+            DUES.due(57, x, "with it again", x.game(2), land == 0 ? 10 : -8, 0);
+            x.move(0, 0, 0);
+            DUES.due(57, x, "a elsewhere", x.game(3), land == 0 ? 10 : -8, 0);
+            x.leg(0, NONE);
+            DUES.due(58, x, "a is shielded, not b", x.first(3), 0, 0);
+            DUES.due(57, x, "b is lost", x.game(3), 9 - 1, 0);
+        }
     }
 
     /** "Of several as good the first". */
@@ -577,6 +614,30 @@ public final class PlanEdgesTest {
         DUES.due(60, x, "lived(1)", x.lived(1), 0, 0);
         DUES.due(60, x, "lived(-1)", x.lived(-1), NONE, 1);
         DUES.due(60, x, "lived(5)", x.lived(5), NONE, 1);
+    }
+
+    /** Each live() counts anew, whatever the one ahead left: loops half done, other TALKS. */
+    private static void livedAnew() {
+        ChalkRoom x = laid("room 9 by 2;line 9 9;", "yield 1 0 1;night;yield 0 0 1;any 0;");
+        for (int i = 0; i < 3; i++) {
+            DUES.due(59, x, "live(1)", x.live(1), 4, 0);
+            DUES.due(60, x, "lived(0)", x.lived(0), i == 0 ? 1 : 0, 0);
+            DUES.due(60, x, "lived(1)", x.lived(1), 2, 0);
+            DUES.due(60, x, "lived(2)", x.lived(2), i == 0 ? 0 : 1, 0);
+            DUES.due(60, x, "lived(3)", x.lived(3), 1, 0);
+        }
+        Texts.talks(x, "loop 9;night;stop;end;");
+        DUES.due(59, x, "live: stopped in a loop", x.live(0), 3, 0);
+        Texts.talks(x, "when boards 0>0;night;end;night;");
+        DUES.due(59, x, "live: a when where the loop was", x.live(0), 3, 0);
+        DUES.due(60, x, "lived(3)", x.lived(3), 2, 0);
+        Texts.talks(x, "loop 99;loop 99;night;end;end;");
+        DUES.due(59, x, "live: three hundred", x.live(0), 300, 0);
+        DUES.due(60, x, "lived(4)", x.lived(4), 1, 0);
+        Texts.talks(x, "loop 2;loop 2;night;end;end;");
+        DUES.due(59, x, "live: a few", x.live(0), 7, 0);
+        DUES.due(60, x, "lived(4)", x.lived(4), 0, 0);
+        DUES.due(60, x, "lived(3)", x.lived(3), 4, 0);
     }
 
     /** "By so many seeds (1 to 20) from one on (1: the last above 9,999, too)". */

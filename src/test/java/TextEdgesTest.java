@@ -50,6 +50,9 @@ public final class TextEdgesTest {
         leastKindInTalks();
         talksWithoutRows();
         talksInPlace();
+        textsBehindOthers();
+        wordsCutByTheEnd();
+        columnsAreNoRows();
         faultTold();
         DUES.end();
     }
@@ -76,6 +79,13 @@ public final class TextEdgesTest {
         ChalkRoom x = new ChalkRoom();
         Texts.room(x, text);
         DUES.due(10, "status() of '" + text + "'", x.status(), 0);
+        return x;
+    }
+
+    private static ChalkRoom laid(String text, String talks) {
+        ChalkRoom x = laid(text);
+        Texts.talks(x, talks);
+        DUES.due(11, "status() of '" + talks + "'", x.status(), 0);
         return x;
     }
 
@@ -726,6 +736,87 @@ public final class TextEdgesTest {
         DUES.due(11, "the ROOM stays", x.told(6), 7);
         DUES.due(11, x, "TALKS of no STEPS", x.talks(0), 0, 0);
         DUES.due(11, x, "live of these", x.live(0), 0, 0);
+    }
+
+    /** A text is read as if it were the first: nothing is left of those ahead, taken or not. */
+    private static void textsBehindOthers() {
+        ChalkRoom x = laid(HEAD + "line 1 1 1;bends 0;thing a at 0 0 worth 1 1 leg 1 big;");
+        DUES.due(10, x, "line, bends, the NAME, the board again",
+            Texts.room(x, HEAD + "line 1 1 1;bends 0;thing a at 0 0 worth 1 1;"), 1, 0);
+        DUES.due(15, x, "no LEG", x.thing(0, 4), NONE, 6);
+        DUES.due(15, x, "not BIG", x.thing(0, 5), 0, 0);
+        DUES.due(10, x, "a FAULT behind room, line, bends", Texts.room(x, HEAD + "line 1 1 1;bends 0;line"), NONE, 9);
+        DUES.due(10, x, "line ahead of room", Texts.room(x, "line 1 1 1;"), NONE, 9);
+        DUES.due(12, "fault(0)", x.fault(0), 2);
+        DUES.due(10, x, "line, bends", Texts.room(x, HEAD + "line 1 1 1;bends 0;"), 0, 0);
+        DUES.due(11, x, "TALKS with a FAULT within two", Texts.talks(x, "loop 1;loop 1;?"), NONE, 9);
+        DUES.due(11, x, "an end without a beginning", Texts.talks(x, "end;"), NONE, 9);
+        DUES.due(12, "fault(0)", x.fault(0), 2);
+        DUES.due(12, "fault(1)", x.fault(1), 0);
+        DUES.due(11, x, "TALKS with a FAULT within two", Texts.talks(x, "loop 1;loop 1;?"), NONE, 9);
+        DUES.due(11, x, "three within each other", Texts.talks(x, "loop 1;loop 1;loop 1;end;end;end;"), 3, 0);
+        DUES.due(11, x, "TALKS with a FAULT within three", Texts.talks(x, "loop 1;loop 1;loop 1;?"), NONE, 9);
+        DUES.due(11, x, "without any", Texts.talks(x, "night;"), 1, 0);
+        // mean() is let in between, for it keeps the ROOM for a while.
+        ChalkRoom y = laid(TALKS_ROOM + "bends 2;", "night;");
+        y.cede(0, 0, 1);
+        y.cede(1, 1, 2);
+        y.night();
+        y.leg(0, 1);
+        y.mean(0, 0, 3);
+        DUES.due(10, y, "room behind mean()", Texts.room(y, "room 2 by 2;thing a at 0 0 worth 1 1;"), 1, 0);
+        int[] due = {2, 2, 1, 9, 0, 0, 0};
+        for (int what = 0; what < 7; what++) {
+            DUES.due(10, "told(" + what + ") behind mean()", y.told(what), due[what]);
+        }
+        DUES.due(15, y, "no LEG", y.thing(0, 4), NONE, 6);
+        ChalkRoom z = laid(HEAD + "thing a at 0 0 worth 1 1 big;", "night;");
+        z.mean(0, 0, 1);
+        Texts.room(z, "room 2 by 2;thing b at 0 0 worth 1 1;");
+        DUES.due(15, z, "not BIG behind mean()", z.thing(0, 5), 0, 0);
+    }
+
+    /** A WORD or NUMBER that goes on behind the n-th byte of the tape ends there. */
+    private static void wordsCutByTheEnd() {
+        ChalkRoom x = laid(TALKS_ROOM);
+        Texts.feed(x, "night;loops");
+        DUES.due(11, x, "talks(10): .. loop", x.talks(10), NONE, 9);
+        DUES.due(12, "fault(1): the end", x.fault(1), 10);
+        Texts.feed(x, "room 1 by 1;bendsx");
+        DUES.due(10, x, "room(17): .. bends", x.room(17), NONE, 9);
+        DUES.due(12, "fault(1): the end", x.fault(1), 17);
+        Texts.feed(x, "room 1 by 12345");
+        DUES.due(10, x, "room(11): .. 1", x.room(11), NONE, 9);
+        DUES.due(12, "fault(0)", x.fault(0), 2);
+        DUES.due(12, "fault(1): the end", x.fault(1), 11);
+        Texts.feed(x, "loop 99999");
+        DUES.due(11, x, "talks(9): .. 9999", x.talks(9), NONE, 9);
+        DUES.due(12, "fault(0)", x.fault(0), 4);
+        DUES.due(12, "fault(1)", x.fault(1), 5);
+    }
+
+    /** A column that there is none of, though there is such a row, and the other way round. */
+    private static void columnsAreNoRows() {
+        refused("room 1 by 7;thing a at 1 0 worth 1 1;", 4, 23);
+        refused("room 1 by 7;thing a at 6 0 worth 1 1;", 4, 23);
+        refused("room 9 by 1;thing a at 0 1 worth 1 1;", 4, 25);
+        taken("room 1 by 7;thing a at 0 6 worth 1 1;", 1);
+        taken("room 9 by 1;thing a at 8 0 worth 1 1;", 1);
+        ChalkRoom x = laid("room 1 by 7;thing a at 0 0 worth 1 1;");
+        DUES.due(11, x, "move a to 1 0", Texts.talks(x, "move a to 1 0;"), NONE, 9);
+        DUES.due(12, "fault(0)", x.fault(0), 4);
+        DUES.due(12, "fault(1)", x.fault(1), 10);
+        DUES.due(11, x, "move a to 0 6", Texts.talks(x, "move a to 0 6;"), 1, 0);
+        ChalkRoom y = laid("room 9 by 1;thing a at 0 0 worth 1 1;");
+        DUES.due(11, y, "move a to 8 1", Texts.talks(y, "move a to 8 1;"), NONE, 9);
+        DUES.due(12, "fault(1)", y.fault(1), 12);
+        DUES.due(11, y, "sweep 1", Texts.talks(y, "sweep 1;"), NONE, 9);
+        DUES.due(11, y, "yield 1 1 1", Texts.talks(y, "yield 1 1 1;"), NONE, 9);
+        DUES.due(12, "fault(1)", y.fault(1), 8);
+        DUES.due(16, x, "on(1, 0)", x.on(1, 0), NONE, 1);
+        DUES.due(16, y, "on(0, 1)", y.on(0, 1), NONE, 1);
+        DUES.due(33, x, "move(0, 1, 0)", x.move(0, 1, 0), false, 1);
+        DUES.due(33, y, "move(0, 0, 1)", y.move(0, 0, 1), false, 1);
     }
 
     /** fault(): "of the latest room() or talks() with STATUS 0 or 9"; "NONE for others, and ahead of any". */
