@@ -199,15 +199,20 @@ public final class LanguageTest {
         String talks = "loop 9;any 0;any 1;when value 0>3;sweep 2;night;end;move a to 3 3;end;";
         int[][] roomInts = ints(room);
         int[][] talksInts = ints(talks);
-        ChalkRoom x = new ChalkRoom();
-        oneOfEach(x, roomInts, room.length(), talksInts, talks.length());
+        ChalkRoom[] all = new ChalkRoom[60];
+        for (int i = 0; i < all.length; i++) {
+            all[i] = new ChalkRoom();
+        }
+        oneOfEach(new ChalkRoom(), roomInts, room.length(), talksInts, talks.length());
         long before = allocated();
-        for (int i = 0; i < 200; i++) {
-            oneOfEach(x, roomInts, room.length(), talksInts, talks.length());
+        for (int i = 0; i < 180; i++) {
+            oneOfEach(all[i / 3], roomInts, room.length(), talksInts, talks.length());
         }
         long bytes = allocated() - before;
-        holds(12, "200 of each call made " + bytes + " bytes", bytes < 4096);
-        holds(12, "the calls did something", x.told(0) == 9 && x.lived(0) >= 0 && x.status() == 0);
+        holds(12, "180 of each call made " + bytes + " bytes", bytes < 4096);
+        for (ChalkRoom x : all) {
+            holds(12, "the calls did something", x.told(0) == 9 && x.lived(0) >= 0 && x.status() == 0);
+        }
     }
 
     private static int[][] ints(String text) {

@@ -4,6 +4,8 @@ import java.util.Random;
 
 /** Runs of drawn calls on ChalkRoom and on Model: every answer, STATUS and FRACTION must be the same. */
 public final class ModelTest {
+    /** An object is used for at most 512 calls; one drawn call may need some fifty for its text. */
+    private static final int MOST_CALLS = 512 - 60;
     private static final String[] WORDS = ("room by line bends thing at worth leg big yield night sweep move to any when"
         + " boards value holds loop end stop").split(" ");
     private static final String[] NAMES = {"a", "b", "safe", "stove", "abcdefgh", "tsar", "z", "map", "lamp", "bed", "q", "rug"};
@@ -13,13 +15,14 @@ public final class ModelTest {
     private Model model;
     private final List<String> story = new ArrayList<>();
     private int wrong = 0;
+    private int calls = 0;
 
     private ModelTest(long seed) {
         dice = new Random(seed);
     }
 
     public static void main(String[] args) {
-        int runs = args.length > 0 ? Integer.parseInt(args[0]) : 400;
+        int runs = args.length > 0 ? Integer.parseInt(args[0]) : 3000;
         long from = args.length > 1 ? Long.parseLong(args[1]) : 1;
         int wrong = 0;
         for (int run = 0; run < runs && wrong < 5; run++) {
@@ -56,7 +59,7 @@ public final class ModelTest {
         room = new ChalkRoom();
         model = new Model();
         boolean little = dice.nextInt(4) > 0;
-        for (int call = 0; call < 500 && wrong == 0; call++) {
+        for (int call = 0; calls < MOST_CALLS && call < MOST_CALLS && wrong == 0; call++) {
             if (call == 0 && dice.nextInt(8) > 0 || dice.nextInt(60) == 0) {
                 text(drawnRoom(little), true);
             } else if (dice.nextInt(12) == 0) {
@@ -74,8 +77,13 @@ public final class ModelTest {
 
     private void same(String call, long got, long due) {
         story.add(call + " -> " + got);
-        boolean differ = got != due || room.status() != model.status || room.top() != model.top
-            || room.bottom() != model.bottom || room.fault(0) != model.fault(0) || room.fault(1) != model.fault(1);
+        boolean differ = got != due || room.status() != model.status;
+        calls += 2;
+        if (calls % 8 < 2 || call.startsWith("room(") || call.startsWith("talks(") || call.startsWith("mean(")) {
+            differ |= room.top() != model.top || room.bottom() != model.bottom || room.fault(0) != model.fault(0)
+                || room.fault(1) != model.fault(1);
+            calls += 4;
+        }
         if (differ) {
             wrong = 1;
             System.out.println(call + ": got " + got + " (status " + room.status() + ", " + room.top() + "/" + room.bottom()
@@ -91,7 +99,12 @@ public final class ModelTest {
     private void text(String text, boolean isRoom) {
         for (int from = 0; from < text.length(); from += 20) {
             int[] v = Texts.twenty(text, from);
-            same("feed", room.feed(v[0], v[1], v[2], v[3], v[4]), model.feed(v[0], v[1], v[2], v[3], v[4]));
+            int got = room.feed(v[0], v[1], v[2], v[3], v[4]);
+            calls++;
+            if (got != model.feed(v[0], v[1], v[2], v[3], v[4])) {
+                wrong = 1;
+                System.out.println("feed: got " + got);
+            }
         }
         int n = dice.nextInt(20) == 0 ? near(text.length()) : text.length();
         if (isRoom) {
