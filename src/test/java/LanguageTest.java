@@ -40,6 +40,7 @@ public final class LanguageTest {
         classes();
         String source = Files.readString(Path.of("src/main/java/ChalkRoom.java"), StandardCharsets.ISO_8859_1);
         words(source, stripped(source));
+        faceOfDocument(Files.readString(Path.of("../shared/DOC.md")), source);
         methods(stripped(source));
         noObjects();
         System.out.println("LanguageTest: " + passed + " passed, " + failed + " failed");
@@ -81,6 +82,21 @@ public final class LanguageTest {
         }
         holds(1, "the class is not public and final", Modifier.isPublic(ChalkRoom.class.getModifiers())
             && Modifier.isFinal(ChalkRoom.class.getModifiers()));
+    }
+
+    /** Row by row as the document has it, the names of the parameters and the order, too. */
+    private static void faceOfDocument(String document, String source) {
+        List<String> due = new ArrayList<>();
+        Matcher m = Pattern.compile("^    (public .*);$", Pattern.MULTILINE).matcher(document);
+        while (m.find()) {
+            due.add(m.group(1));
+        }
+        List<String> found = new ArrayList<>();
+        Matcher n = Pattern.compile("^    (public .*?)(;| \\{)$", Pattern.MULTILINE).matcher(source);
+        while (n.find()) {
+            found.add(n.group(1));
+        }
+        holds(1, "the face is " + found + "\n  and in the document " + due, due.equals(found) && due.size() == 64);
     }
 
     private static void classes() {
